@@ -20,7 +20,9 @@ public final class PromisesTest {
         piece();
         faults();
         faultsOfTokens();
+        fullText();
         pieceForgets();
+        longestPiece();
         section();
         thing();
         bar();
@@ -178,6 +180,43 @@ public final class PromisesTest {
         faultAt("t5;x 100", 3);
         faultAt("t5;" + (char) 233, 3);
         faultAt("t5;" + (char) 0, 3);
+    }
+
+    private static String filled(String text, String with) {
+        return text + with.repeat(120 - text.length());
+    }
+
+    private static void fullText() {
+        readsAs(filled("", " "), 0);
+        readsAs(filled(PIECE, " "), 8);
+        readsAs(filled("s5 2 0;".repeat(8) + "t60;".repeat(6) + "n7 4;", " "), 15);
+        readsAs(" ".repeat(117) + "t5;", 1);
+        faultAt(filled("t5;", "s"), 3);
+        faultAt(filled("t", "9"), 1);
+        faultAt(filled("t", "0"), 1);
+        faultAt(" ".repeat(119) + "t", 120);
+        faultAt(" ".repeat(118) + "t5", 120);
+        faultAt(filled("t5", " "), 120);
+    }
+
+    private static void longestPiece() {
+        TriangleRest x = Check.reading("s30 4 1;".repeat(7) + "s30 4 0;n7 29;" + "t60;".repeat(6));
+        due("4: the longest piece", x.now(5), 960);
+        due("4: its note", x.now(6), 959);
+        due("19: its places", x.places(-1), 960);
+        due("20: when to listen", x.listen(), 60);
+        x.hears(60, 0);
+        due("19: its places by the last section", x.places(-1), 120);
+        due("19: the first of these", x.places(0), 780);
+        due("20: when to listen then", x.listen(), 0);
+        due("21: its rests", x.pack(-2), 63);
+        due("21: the last thing", x.pack(5), 2);
+        due("15: trim(119)", x.trim(119), 127);
+        for (int i = 0; i < 9; i++) {
+            x.bars(99);
+        }
+        due("8: bars(69)", x.bars(69), 960);
+        due("8: struck", x.now(4), 1);
     }
 
     private static void pieceForgets() {
