@@ -10,8 +10,12 @@ import java.util.regex.Pattern;
 /** Long runs of calls, the same each time, compared with a model that spells out each bar and each way. */
 public final class ModelTest {
     private static final int BAD = -1, STATE = -2, FULL = -3, NONE = -9, NO = -1000000;
-    private static final int RUNS = 800;
-    private static final int CALLS = 400;
+    private static final int RUNS = 2000;
+    /** An object is used for so many calls at most. */
+    private static final int CALLS = 512;
+    /** No step but the typing of a text makes more calls. */
+    private static final int CALLS_OF_A_STEP = 16;
+    private static final int CALLS_OF_A_TEXT = 200;
 
     public static void main(String[] args) {
         Check check = new Check();
@@ -514,6 +518,7 @@ public final class ModelTest {
         private final Random random;
         private final TriangleRest rest = new TriangleRest();
         private final Model model = new Model();
+        private int calls;
 
         Run(Check check, int number) {
             this.check = check;
@@ -524,9 +529,10 @@ public final class ModelTest {
         void go() {
             type(number % 3 == 0 ? noise() : tellPiece());
             piece();
-            for (int i = 0; i < CALLS; i++) {
+            for (int i = 0; i < CALLS && calls + CALLS_OF_A_STEP <= CALLS; i++) {
                 call();
             }
+            check.holds("run " + number + " has at most 512 calls: " + calls, calls <= CALLS);
         }
 
         /** A number within, or now and then beyond, what it may be. */
@@ -604,6 +610,7 @@ public final class ModelTest {
         }
 
         private void due(String call, long got, long want) {
+            calls++;
             check.due("run " + number + ": " + call, got, want);
         }
 
@@ -639,7 +646,7 @@ public final class ModelTest {
                     }
                 }
                 default -> {
-                    if (random.nextInt(12) == 0) {
+                    if (random.nextInt(12) == 0 && calls + CALLS_OF_A_TEXT <= CALLS) {
                         type(random.nextBoolean() ? noise() : tellPiece());
                         piece();
                     }
