@@ -6,8 +6,8 @@ import java.util.function.Supplier;
 
 /**
  * "Refused, and nothing changes, the first of these: BAD (a number is not as told, or there is no such thing),
- * STATE (as told), FULL." Every number of every call, from far below to far above what it may be; and that
- * questions change nothing. Each in a new object, in one in the midst of things, and in one that has all it may.
+ * STATE (as told), FULL." Each number that a call takes, with many values below and above what it may be; and
+ * that questions change nothing. Each in a new object, in one in the midst of things, and in a full one.
  */
 public final class RefusedTest {
     private static final int BAD = TriangleRest.BAD;
