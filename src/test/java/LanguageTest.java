@@ -32,6 +32,7 @@ public final class LanguageTest {
         }
         check.holds("at most twelve classes: " + classes, classes <= 12);
         methods(check, code);
+        objects(check, code);
         check.end();
     }
 
@@ -46,5 +47,16 @@ public final class LanguageTest {
             check.holds(m.group(2) + " has few parameters", m.group(3).split(",").length <= 7);
         }
         check.holds("methods are seen: " + seen, seen > 60);
+    }
+
+    /** Rows are made once, with the object, and no call makes another. */
+    private static void objects(Check check, String code) {
+        String made = "(private )?final [\\w\\[\\]]+ \\w+ = new .*;|kinds\\[\\d\\] = new \\w+\\(\\);";
+        long seen = 0;
+        for (String line : code.lines().filter(l -> l.contains("new ")).map(String::strip).toList()) {
+            seen++;
+            check.holds("only fields and the constructor make objects: " + line, line.matches(made));
+        }
+        check.holds("objects are seen: " + seen, seen > 0);
     }
 }
